@@ -290,8 +290,8 @@ public final class WorkHall {
     }
 
     /**
-     * Submits a NEW job. Every level below makes one more job something other than NEW, so the depth
-     * never passes the number of jobs: the guard on it is never what refuses a job.
+     * The job is NEW. Each level below takes one more job out of that state, so the depth never passes the
+     * number of jobs: its guard is not what refuses a job.
      */
     private void admit(Job job, int depth) {
         Worker idle = crew.firstIdle();
@@ -330,13 +330,12 @@ public final class WorkHall {
             default:
                 // No longer NEW while it is performed: or else it could fork itself without end.
                 job.state = RUNNING;
-                carryOut(job, depth);
+                performAndEnd(job, depth);
                 break;
         }
     }
 
-    /** Performs a RUNNING job and ends it. */
-    private void carryOut(Job job, int depth) {
+    private void performAndEnd(Job job, int depth) {
         switch (job.kind) {
             case VALUE:
                 job.succeed(job.a);
@@ -409,7 +408,7 @@ public final class WorkHall {
             return true;
         }
         Job job = worker.job;
-        carryOut(job, 0);
+        performAndEnd(job, 0);
         if (job.state == FAILED && job.thrown == CRASHED) {
             replaceWorker(place);
             return false;

@@ -65,6 +65,21 @@ final class Check {
         return hall;
     }
 
+    /** A full hall that is CLOSING, with jobs 1 to 4 DONE, FAILED, CANCELLED and REFUSED. */
+    static WorkHall withJobsThatAreOver() {
+        WorkHall hall = full(3);
+        hall.submit(value(hall, 1));
+        hall.submit(crash(hall, 1));
+        hall.cancel(value(hall, 1), false);
+        hall.shut(false);
+        int late = value(hall, 1);
+        answer(() -> hall.submit(late));
+        for (int job = 1; job <= 4; job++) {
+            same("STATE of job " + job, state(hall, job), 2 + job);
+        }
+        return hall;
+    }
+
     static int state(WorkHall hall, int job) {
         return hall.about(job, 0);
     }

@@ -12,7 +12,9 @@ public final class Promise03SubmitTest {
         performingAtOnce();
         crashingAtOnceCostsNoWorker();
         forkingAtOnce();
+        forksOfTheOtherPolicies();
         aLongChainAtOnce();
+        numbersBehindTheLastJob();
         closedPoolsRefuse();
         Check.end();
     }
@@ -185,6 +187,32 @@ public final class Promise03SubmitTest {
         Check.same("all have ENDED", hall.count(6), 23);
         Check.same("the last", hall.get(23), 7);
         Check.same("the last but one", hall.get(22), 3);
+    }
+
+    private static void forksOfTheOtherPolicies() {
+        int[] dueState = {6, 5, 5};
+        for (int policy = 0; policy <= 2; policy++) {
+            WorkHall hall = new WorkHall(1, 1, 0, policy);
+            int target = Check.value(hall, 1);
+            int fork = Check.fork(hall, target, 1);
+            hall.submit(fork);
+            hall.step(1);
+            Check.same("the forked JOB, policy " + policy, Check.state(hall, target), dueState[policy]);
+            Check.same("the FORK", Check.state(hall, fork), policy == 0 ? 4 : 3);
+            Check.same("what it has", Check.answer(() -> hall.get(fork)),
+                    policy == 0 ? "UnsupportedOperationException" : dueState[policy]);
+        }
+    }
+
+    private static void numbersBehindTheLastJob() {
+        WorkHall hall = Check.full(3);
+        for (int i = 1; i < 22; i++) {
+            Check.value(hall, 1);
+        }
+        int fork = Check.fork(hall, 24, 1);
+        int sum = hall.job(3, 24, 24, 1);
+        Check.same("FORK of 24", hall.submit(fork), 4);
+        Check.same("SUM of 24", hall.submit(sum), 4);
     }
 
     private static void closedPoolsRefuse() {

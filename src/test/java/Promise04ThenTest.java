@@ -23,6 +23,10 @@ public final class Promise04ThenTest {
         Check.refused("then(5, 24)", Check.ARGUMENT, () -> hall.then(5, 24));
         Check.refused("then(24, 5)", Check.ARGUMENT, () -> hall.then(24, 5));
         Check.refused("then(0, 2)", Check.NO_ELEMENT, () -> hall.then(0, 2));
+        Check.refused("then(0, 23)", Check.NO_ELEMENT, () -> hall.then(0, 23));
+        Check.refused("then(23, 0)", Check.NO_ELEMENT, () -> hall.then(23, 0));
+        Check.refused("then(2, 2)", Check.NO_ELEMENT, () -> hall.then(2, 2));
+        Check.refused("then(24, 24)", Check.ARGUMENT, () -> hall.then(24, 24));
         Check.refused("then(2, 0)", Check.NO_ELEMENT, () -> hall.then(2, 0));
         Check.refused("then(0, 0)", Check.ARGUMENT, () -> hall.then(0, 0));
         Check.same("the NEXT of 0", hall.about(0, 2), -1);
@@ -45,22 +49,13 @@ public final class Promise04ThenTest {
     }
 
     private static void jobsThatAreOverTakeNoNext() {
-        WorkHall hall = Check.full(3);
-        int done = Check.value(hall, 1);
-        int failed = Check.crash(hall, 1);
-        int cancelled = Check.value(hall, 1);
-        int refused = Check.value(hall, 1);
-        hall.submit(done);
-        hall.submit(failed);
-        hall.cancel(cancelled, false);
-        hall.shut(false);
-        Check.answer(() -> hall.submit(refused));
-        for (int job = done; job <= refused; job++) {
+        WorkHall hall = Check.withJobsThatAreOver();
+        for (int job = 1; job <= 4; job++) {
             int first = job;
             Check.refused("then(" + job + ", 0)", Check.STATE, () -> hall.then(first, 0));
         }
-        Check.same("a job that is over may follow", hall.then(0, done), -1);
-        Check.refused("the same comes before the STATE", Check.ARGUMENT, () -> hall.then(done, done));
+        Check.same("a job that is over may follow", hall.then(0, 1), -1);
+        Check.refused("the same comes before the STATE", Check.ARGUMENT, () -> hall.then(1, 1));
     }
 
     private static void onlyDoneJobsGoOn() {

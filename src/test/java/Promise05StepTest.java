@@ -6,9 +6,11 @@ public final class Promise05StepTest {
         jobsOfTheQueueAreTaken();
         newWorkersWaitForTheNextStep();
         idleWorkersThatGetAJobWorkInTheSameStep();
+        otherFailuresCostNoWorker();
         aCrashWithoutQueue();
         aCrashWithQueue();
         afterACrashTheOthersHaveTheirTurn();
+        aFullPoolCrashes();
         forks();
         jobsPerformedAtOnceAreCounted();
         aClosingPoolEndsAfterTheLast();
@@ -71,6 +73,17 @@ public final class Promise05StepTest {
         Check.same("the result of the FORK", hall.get(fork), 2);
     }
 
+    private static void otherFailuresCostNoWorker() {
+        int[][] failing = {{1, 1, 0}, {2, 9, 0}, {3, 0, 0}, {4, 0, 0}};
+        for (int[] kind : failing) {
+            WorkHall hall = new WorkHall(1, 1, 1, 0);
+            hall.submit(hall.job(kind[0], kind[1], kind[2], 1));
+            Check.same("KIND " + kind[0] + " ends", hall.step(1), 1);
+            Check.same("it is FAILED", Check.state(hall, 0), 4);
+            Check.same("its worker stays", hall.worker(0), 0);
+        }
+    }
+
     private static void aCrashWithoutQueue() {
         WorkHall hall = new WorkHall(1, 1, 1, 0);
         hall.submit(Check.crash(hall, 2));
@@ -109,6 +122,19 @@ public final class Promise05StepTest {
         Check.same("the new one had none", hall.worker(1), 1);
         Check.same("both end", hall.step(1), 2);
         Check.same("one is left", hall.count(1), 1);
+    }
+
+    private static void aFullPoolCrashes() {
+        WorkHall hall = new WorkHall(3, 5, 4, 0);
+        for (int i = 0; i < 9; i++) {
+            hall.submit(Check.crash(hall, 1));
+        }
+        Check.same("five crash", hall.step(1), 5);
+        Check.same("four are new", hall.count(1), 4);
+        Check.same("the QUEUE is empty", hall.count(3), 0);
+        Check.same("four crash", hall.step(1), 4);
+        Check.same("none is left", hall.count(1), 0);
+        Check.same("the most that were there", hall.count(7), 5);
     }
 
     private static void forks() {

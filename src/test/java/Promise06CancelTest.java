@@ -4,6 +4,7 @@ public final class Promise06CancelTest {
         wrongJobs();
         newJobs();
         queuedJobs();
+        aFullQueue();
         runningJobs();
         theWorkerTakesTheNextOfTheQueue();
         jobsThatAreOver();
@@ -43,6 +44,17 @@ public final class Promise06CancelTest {
         Check.same("cancelled ones add no delay", hall.delay(), 0.0);
     }
 
+    private static void aFullQueue() {
+        WorkHall hall = new WorkHall(1, 1, 4, 0);
+        for (int i = 0; i < 5; i++) {
+            hall.submit(Check.value(hall, 1));
+        }
+        Check.same("the first of four", hall.cancel(1, false), 1);
+        Check.same("the last of three", hall.about(4, 3), 2);
+        Check.same("cancel the last", hall.cancel(4, false), 1);
+        Check.same("in the QUEUE", hall.count(3), 2);
+    }
+
     private static void runningJobs() {
         WorkHall hall = Check.full(0);
         Check.refused("soft", Check.UNSUPPORTED, () -> hall.cancel(0, false));
@@ -69,17 +81,8 @@ public final class Promise06CancelTest {
     }
 
     private static void jobsThatAreOver() {
-        WorkHall hall = Check.full(3);
-        int done = Check.value(hall, 1);
-        int failed = Check.crash(hall, 1);
-        int cancelled = Check.value(hall, 1);
-        int refused = Check.value(hall, 1);
-        hall.submit(done);
-        hall.submit(failed);
-        hall.cancel(cancelled, true);
-        hall.shut(false);
-        Check.answer(() -> hall.submit(refused));
-        for (int i = done; i <= refused; i++) {
+        WorkHall hall = Check.withJobsThatAreOver();
+        for (int i = 1; i <= 4; i++) {
             int job = i;
             int state = Check.state(hall, job);
             Check.refused("hard, " + job, Check.UNSUPPORTED, () -> hall.cancel(job, true));
