@@ -103,6 +103,8 @@ public final class Promise03SubmitTest {
         WorkHall noRoom = Check.full(2);
         Check.same("submit without room", noRoom.submit(Check.value(noRoom, 1)), 5);
         Check.same("the RUNNING one stays", Check.state(noRoom, 0), 2);
+        Check.same("the QUEUE stays empty", noRoom.count(3), 0);
+        Check.same("submit without room again", noRoom.submit(Check.value(noRoom, 1)), 5);
     }
 
     private static void performingAtOnce() {
