@@ -80,6 +80,31 @@ final class Check {
         return hall;
     }
 
+    /**
+     * An OPEN hall with POLICY 0 whose jobs 0 to 6 are in the STATES 0 to 6, and whose job 7 is of this kind and
+     * RUNNING, two STEPS from its end; the QUEUE and the workers are full.
+     */
+    static WorkHall withEveryState(int kind, int a, int b) {
+        WorkHall hall = new WorkHall(2, 2, 1, 0);
+        int[] costs = {1, 5, 5, 1, 1, 1, 1};
+        for (int job = 0; job <= 6; job++) {
+            hall.job(job == 4 ? 1 : 0, 7, 0, costs[job]);
+        }
+        hall.submit(3);
+        hall.submit(4);
+        hall.step(1);
+        hall.submit(2);
+        hall.submit(hall.job(kind, a, b, 2));
+        hall.submit(1);
+        hall.cancel(5, false);
+        answer(() -> hall.submit(6));
+        for (int job = 0; job <= 6; job++) {
+            same("STATE of job " + job, state(hall, job), job);
+        }
+        same("STATE of job 7", state(hall, 7), 2);
+        return hall;
+    }
+
     static int state(WorkHall hall, int job) {
         return hall.about(job, 0);
     }

@@ -1,5 +1,8 @@
 /** Promise 1: the constructor clamps, and a new pool is OPEN and without WORKERS. */
 public final class Promise01NewObjectTest {
+    private static final int LEAST = Integer.MIN_VALUE;
+    private static final int GREATEST = Integer.MAX_VALUE;
+
     public static void main(String[] args) {
         aNewPoolIsOpenAndEmpty();
         coreIsClamped();
@@ -10,55 +13,64 @@ public final class Promise01NewObjectTest {
         Check.end();
     }
 
+    /** "The POOL is OPEN, without WORKERS." */
     private static void aNewPoolIsOpenAndEmpty() {
         WorkHall hall = new WorkHall(3, 5, 4, 3);
         for (int what = 0; what <= 7; what++) {
             Check.same("count(" + what + ") of a new pool", hall.count(what), 0);
         }
         Check.refused("worker(0) of a new pool", Check.NO_ELEMENT, () -> hall.worker(0));
+        Check.refused("about(0, 0) of a new pool", Check.NO_ELEMENT, () -> hall.about(0, 0));
+        Check.refused("delay of a new pool", Check.ARITHMETIC, () -> hall.delay());
+        Check.refused("due of a new pool", Check.NO_ELEMENT, () -> hall.due());
+        Check.same("step of a new pool", hall.step(10), 0);
+        Check.same("tick of a new pool", hall.tick(100.0), 0);
     }
 
+    /** "core 0 .. 3" */
     private static void coreIsClamped() {
-        Check.same("core -5", workersBeforeQueue(-5), 0);
-        Check.same("core 0", workersBeforeQueue(0), 0);
-        Check.same("core 2", workersBeforeQueue(2), 2);
-        Check.same("core 3", workersBeforeQueue(3), 3);
-        Check.same("core 4", workersBeforeQueue(4), 3);
-        Check.same("core least", workersBeforeQueue(Integer.MIN_VALUE), 0);
-        Check.same("core greatest", workersBeforeQueue(Integer.MAX_VALUE), 3);
+        int[][] cases = {{LEAST, 0}, {-5, 0}, {-1, 0}, {0, 0}, {1, 1}, {2, 2}, {3, 3}, {4, 3}, {GREATEST, 3}};
+        for (int[] one : cases) {
+            Check.same("core " + one[0], workersBeforeQueue(one[0]), one[1]);
+        }
     }
 
+    /** "most 1 .. 5" */
     private static void mostIsClamped() {
-        Check.same("most 0", workersAtMost(0, 0), 1);
-        Check.same("most least", workersAtMost(0, Integer.MIN_VALUE), 1);
-        Check.same("most 1", workersAtMost(0, 1), 1);
-        Check.same("most 4", workersAtMost(0, 4), 4);
-        Check.same("most 5", workersAtMost(0, 5), 5);
-        Check.same("most 6", workersAtMost(0, 6), 5);
-        Check.same("most greatest", workersAtMost(3, Integer.MAX_VALUE), 5);
+        int[][] cases = {{LEAST, 1}, {-1, 1}, {0, 1}, {1, 1}, {2, 2}, {3, 3}, {4, 4}, {5, 5}, {6, 5}, {GREATEST, 5}};
+        for (int[] one : cases) {
+            Check.same("most " + one[0], workersAtMost(0, one[0]), one[1]);
+        }
     }
 
+    /** "but not below core": below the core that is clamped, too. */
     private static void mostIsNotBelowCore() {
-        Check.same("core 3, most 1", workersAtMost(3, 1), 3);
-        Check.same("core 2, most -9", workersAtMost(2, -9), 2);
-        Check.same("core 99, most 2", workersAtMost(99, 2), 3);
+        int[][] cases = {{3, 1, 3}, {3, 2, 3}, {3, 3, 3}, {3, 4, 4}, {2, 1, 2}, {2, LEAST, 2}, {1, 0, 1}, {4, 1, 3},
+            {GREATEST, 2, 3}, {4, 4, 4}, {GREATEST, GREATEST, 5}, {-1, 0, 1}, {LEAST, LEAST, 1}};
+        for (int[] one : cases) {
+            Check.same("core " + one[0] + ", most " + one[1], workersAtMost(one[0], one[1]), one[2]);
+        }
     }
 
+    /** "room 0 .. 4" */
     private static void roomIsClamped() {
-        Check.same("room -1", queuedAtMost(-1), 0);
-        Check.same("room 0", queuedAtMost(0), 0);
-        Check.same("room 3", queuedAtMost(3), 3);
-        Check.same("room 4", queuedAtMost(4), 4);
-        Check.same("room 5", queuedAtMost(5), 4);
+        int[][] cases = {{LEAST, 0}, {-1, 0}, {0, 0}, {1, 1}, {2, 2}, {3, 3}, {4, 4}, {5, 4}, {GREATEST, 4}};
+        for (int[] one : cases) {
+            Check.same("room " + one[0], queuedAtMost(one[0]), one[1]);
+        }
     }
 
+    /** "policy 0 .. 3": 1 and 2 are told apart by what a full QUEUE loses. */
     private static void policyIsClamped() {
-        Check.same("policy -1", stateWhenFull(-1), 6);
-        Check.same("policy 0", stateWhenFull(0), 6);
-        Check.same("policy 1", stateWhenFull(1), 5);
-        Check.same("policy 2", stateWhenFull(2), 5);
-        Check.same("policy 3", stateWhenFull(3), 3);
-        Check.same("policy 4", stateWhenFull(4), 3);
+        String refused = "6, the first 1";
+        String cancelled = "5, the first 1";
+        String queued = "1, the first 5";
+        String done = "3, the first 1";
+        int[] policies = {LEAST, -1, 0, 1, 2, 3, 4, GREATEST};
+        String[] due = {refused, refused, refused, cancelled, queued, done, done, done};
+        for (int i = 0; i < policies.length; i++) {
+            Check.same("policy " + policies[i], statesWhenFull(policies[i]), due[i]);
+        }
     }
 
     private static int workersBeforeQueue(int core) {
@@ -85,10 +97,12 @@ public final class Promise01NewObjectTest {
         return hall.count(3);
     }
 
-    private static int stateWhenFull(int policy) {
-        WorkHall hall = Check.full(policy);
-        int job = Check.value(hall, 1);
+    private static String statesWhenFull(int policy) {
+        WorkHall hall = new WorkHall(1, 1, 1, policy);
+        hall.submit(Check.value(hall, 5));
+        hall.submit(Check.value(hall, 5));
+        int job = Check.value(hall, 5);
         Check.answer(() -> hall.submit(job));
-        return Check.state(hall, job);
+        return Check.state(hall, job) + ", the first " + Check.state(hall, 1);
     }
 }

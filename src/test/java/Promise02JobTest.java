@@ -2,12 +2,15 @@
 public final class Promise02JobTest {
     public static void main(String[] args) {
         numbersGoUpToTheLast();
-        kindsAndCostsHaveEnds();
+        jobsThatAreOverCountToo();
+        kindsHaveEnds();
+        costsHaveEnds();
         rangesComeBeforeTheLimit();
         aClosedPoolStillMakesJobs();
         Check.end();
     }
 
+    /** "24 are there: IllegalStateException. A JOB, NEW. Answers its number." */
     private static void numbersGoUpToTheLast() {
         WorkHall hall = new WorkHall(1, 1, 1, 0);
         for (int i = 0; i < 24; i++) {
@@ -20,17 +23,39 @@ public final class Promise02JobTest {
         Check.same("count(0) after the 25th", hall.count(0), 24);
     }
 
-    private static void kindsAndCostsHaveEnds() {
+    private static void jobsThatAreOverCountToo() {
+        WorkHall hall = new WorkHall(1, 1, 1, 3);
+        for (int i = 0; i < 23; i++) {
+            hall.cancel(Check.value(hall, 1), false);
+        }
+        Check.same("the 24th", Check.value(hall, 1), 23);
+        Check.refused("the 25th", Check.STATE, () -> hall.job(0, 0, 0, 1));
+        hall.shut(true);
+        Check.refused("the 25th of an ENDED pool", Check.STATE, () -> hall.job(0, 0, 0, 1));
+    }
+
+    /** "kind 0 .. 5" */
+    private static void kindsHaveEnds() {
         WorkHall hall = new WorkHall(1, 1, 1, 0);
-        for (int kind : new int[] {-1, 6, Integer.MIN_VALUE, Integer.MAX_VALUE}) {
+        for (int kind : new int[] {Integer.MIN_VALUE, -1, 6, Integer.MAX_VALUE}) {
             Check.refused("kind " + kind, Check.ARGUMENT, () -> hall.job(kind, 0, 0, 1));
         }
-        for (int cost : new int[] {0, 6, -1, Integer.MIN_VALUE, Integer.MAX_VALUE}) {
+        Check.same("no JOB was made", hall.count(0), 0);
+        for (int kind = 0; kind <= 5; kind++) {
+            Check.same("kind " + kind, hall.job(kind, Integer.MIN_VALUE, Integer.MAX_VALUE, 1), kind);
+        }
+    }
+
+    /** "cost 1 .. 5" */
+    private static void costsHaveEnds() {
+        WorkHall hall = new WorkHall(1, 1, 1, 0);
+        for (int cost : new int[] {Integer.MIN_VALUE, -1, 0, 6, Integer.MAX_VALUE}) {
             Check.refused("cost " + cost, Check.ARGUMENT, () -> hall.job(0, 0, 0, cost));
         }
-        Check.same("count(0) after wrong jobs", hall.count(0), 0);
-        Check.same("kind 5, cost 5", hall.job(5, Integer.MIN_VALUE, Integer.MAX_VALUE, 5), 0);
-        Check.same("kind 0, cost 1", hall.job(0, Integer.MAX_VALUE, Integer.MIN_VALUE, 1), 1);
+        Check.same("no JOB was made", hall.count(0), 0);
+        for (int cost = 1; cost <= 5; cost++) {
+            Check.same("cost " + cost, hall.job(0, Integer.MAX_VALUE, Integer.MIN_VALUE, cost), cost - 1);
+        }
     }
 
     private static void rangesComeBeforeTheLimit() {

@@ -2,6 +2,8 @@
 public final class Promise03SubmitTest {
     public static void main(String[] args) {
         wrongJobs();
+        onlyNewJobs();
+        refusedStaysSo();
         placesInTheirOrder();
         fewerThanCoreComesBeforeIdle();
         theFirstIdleWorkerIsTaken();
@@ -30,6 +32,27 @@ public final class Promise03SubmitTest {
         Check.refused("submit of a RUNNING job", Check.STATE, () -> hall.submit(job));
         hall.step(1);
         Check.refused("submit of a DONE job", Check.STATE, () -> hall.submit(job));
+    }
+
+    /** "It is not NEW: IllegalStateException." */
+    private static void onlyNewJobs() {
+        WorkHall hall = Check.withEveryState(0, 7, 0);
+        for (int state = 1; state <= 6; state++) {
+            int job = state;
+            Check.refused("submit, STATE " + state, Check.STATE, () -> hall.submit(job));
+            Check.same("STATE " + state + " stays", Check.state(hall, job), state);
+        }
+    }
+
+    /** "REFUSED: UnsupportedOperationException (and it stays so)": even when there is room again. */
+    private static void refusedStaysSo() {
+        WorkHall hall = Check.withEveryState(0, 7, 0);
+        Check.refused("submit to a full pool", Check.UNSUPPORTED, () -> hall.submit(0));
+        hall.step(10);
+        Check.same("no WORKER is BUSY", hall.count(2), 0);
+        Check.same("STATE", Check.state(hall, 0), 6);
+        Check.refused("submit again", Check.STATE, () -> hall.submit(0));
+        Check.same("STATE then", Check.state(hall, 0), 6);
     }
 
     private static void placesInTheirOrder() {

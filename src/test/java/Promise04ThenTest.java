@@ -2,8 +2,11 @@
 public final class Promise04ThenTest {
     public static void main(String[] args) {
         wrongJobs();
+        twoThatAreTheSame();
         theNextBeforeIsAnswered();
+        theFirstAndTheLastJob();
         jobsThatAreOverTakeNoNext();
+        eachStateTakesANextOrNot();
         onlyDoneJobsGoOn();
         onlyNewJobsFollow();
         theWorkerCountsAsBusySoLong();
@@ -32,6 +35,41 @@ public final class Promise04ThenTest {
         Check.same("the NEXT of 0", hall.about(0, 2), -1);
     }
 
+    /** "Two JOBS, not the same (IllegalArgumentException)": in each STATE of theirs. */
+    private static void twoThatAreTheSame() {
+        WorkHall hall = Check.withEveryState(0, 7, 0);
+        for (int i = 0; i <= 7; i++) {
+            int job = i;
+            Check.refused("then(" + job + ", " + job + ")", Check.ARGUMENT, () -> hall.then(job, job));
+            Check.same("its NEXT", hall.about(job, 2), -1);
+        }
+    }
+
+    private static void theFirstAndTheLastJob() {
+        WorkHall hall = new WorkHall(1, 1, 1, 0);
+        for (int i = 0; i < 24; i++) {
+            Check.value(hall, 1);
+        }
+        Check.same("then(23, 0)", hall.then(23, 0), -1);
+        Check.same("its NEXT", hall.about(23, 2), 0);
+        Check.same("NEXT 0 before", hall.then(23, 22), 0);
+        Check.same("then(0, 23)", hall.then(0, 23), -1);
+        Check.same("NEXT 23 before", hall.then(0, 1), 23);
+    }
+
+    /** "the first is not NEW, QUEUED or RUNNING: IllegalStateException": the other may be in any STATE. */
+    private static void eachStateTakesANextOrNot() {
+        for (int state = 0; state <= 6; state++) {
+            WorkHall hall = Check.withEveryState(0, 7, 0);
+            int job = state;
+            Check.same("then(" + job + ", 7)", Check.answer(() -> hall.then(job, 7)),
+                    state <= 2 ? -1 : "IllegalStateException");
+            Check.same("its NEXT", hall.about(job, 2), state <= 2 ? 7 : -1);
+            Check.same("then(7, " + job + ")", hall.then(7, job), -1);
+        }
+    }
+
+    /** "Its NEXT is the other. Answers the NEXT before, -1 if it had none." */
     private static void theNextBeforeIsAnswered() {
         WorkHall hall = new WorkHall(1, 1, 1, 0);
         Check.value(hall, 5);

@@ -2,6 +2,8 @@
 public final class Promise05StepTest {
     public static void main(String[] args) {
         wrongNumbers();
+        asManyStepsAsAsked();
+        howManyEndedInThem();
         unitsGoDown();
         jobsOfTheQueueAreTaken();
         newWorkersWaitForTheNextStep();
@@ -26,6 +28,33 @@ public final class Promise05StepTest {
         Check.same("nothing was done", hall.worker(0), 1);
         Check.same("step(1)", hall.step(1), 1);
         Check.same("step(10)", hall.step(10), 0);
+    }
+
+    /** "n 1 .. 10 STEPS." */
+    private static void asManyStepsAsAsked() {
+        for (int n = 1; n <= 10; n++) {
+            WorkHall hall = new WorkHall(1, 1, 2, 0);
+            for (int i = 0; i < 3; i++) {
+                hall.submit(Check.value(hall, 5));
+            }
+            Check.same("step(" + n + ")", hall.step(n), n / 5);
+            Check.same("units left after step(" + n + ")", hall.worker(0), 5 - n % 5);
+        }
+    }
+
+    /** "Answers how many JOBS ENDED in them.": none, and not those before. */
+    private static void howManyEndedInThem() {
+        WorkHall hall = new WorkHall(3, 5, 4, 3);
+        Check.same("without WORKERS", hall.step(10), 0);
+        for (int i = 0; i < 9; i++) {
+            hall.submit(Check.value(hall, 1));
+        }
+        hall.submit(Check.value(hall, 1));
+        Check.same("one ENDED at once", hall.count(6), 1);
+        Check.same("five in one STEP", hall.step(1), 5);
+        Check.same("four in the next", hall.step(1), 4);
+        Check.same("all IDLE", hall.step(10), 0);
+        Check.same("in all", hall.count(6), 10);
     }
 
     private static void unitsGoDown() {

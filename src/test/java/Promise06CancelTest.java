@@ -2,6 +2,7 @@
 public final class Promise06CancelTest {
     public static void main(String[] args) {
         wrongJobs();
+        eachState();
         newJobs();
         queuedJobs();
         aFullQueue();
@@ -18,6 +19,23 @@ public final class Promise06CancelTest {
         Check.refused("cancel(24)", Check.ARGUMENT, () -> hall.cancel(24, true));
         Check.refused("cancel(0)", Check.NO_ELEMENT, () -> hall.cancel(0, true));
         Check.refused("cancel(23)", Check.NO_ELEMENT, () -> hall.cancel(23, false));
+    }
+
+    /** "NEW or QUEUED .. RUNNING, and hard .. Else UnsupportedOperationException. Answers the STATE before." */
+    private static void eachState() {
+        String no = "UnsupportedOperationException";
+        Object[] soft = {0, 1, no, no, no, no, no};
+        Object[] hard = {0, 1, 2, no, no, no, no};
+        for (int state = 0; state <= 6; state++) {
+            int job = state;
+            WorkHall softly = Check.withEveryState(0, 7, 0);
+            Check.same("soft, STATE " + state, Check.answer(() -> softly.cancel(job, false)), soft[state]);
+            Check.same("soft, then", Check.state(softly, job), soft[state] == no ? state : 5);
+            WorkHall firmly = Check.withEveryState(0, 7, 0);
+            Check.same("hard, STATE " + state, Check.answer(() -> firmly.cancel(job, true)), hard[state]);
+            Check.same("hard, then", Check.state(firmly, job), hard[state] == no ? state : 5);
+            Check.refused("once more", Check.UNSUPPORTED, () -> firmly.cancel(job, true));
+        }
     }
 
     private static void newJobs() {

@@ -2,6 +2,7 @@
 public final class Promise07GetTest {
     public static void main(String[] args) {
         wrongJobs();
+        eachState();
         outcomes();
         jobsWithoutOutcome();
         Check.end();
@@ -12,10 +13,25 @@ public final class Promise07GetTest {
         Check.refused("get(-1)", Check.ARGUMENT, () -> hall.get(-1));
         Check.refused("get(24)", Check.ARGUMENT, () -> hall.get(24));
         Check.refused("get(0)", Check.NO_ELEMENT, () -> hall.get(0));
+        Check.refused("get(23)", Check.NO_ELEMENT, () -> hall.get(23));
+    }
+
+    /** "DONE: its RESULT. FAILED: what it threw is thrown .. Else NoSuchElementException." */
+    private static void eachState() {
+        WorkHall hall = Check.withEveryState(0, 7, 0);
+        String no = "NoSuchElementException";
+        Object[] due = {no, no, no, 7, "ArithmeticException", no, no};
+        for (int state = 0; state <= 6; state++) {
+            int job = state;
+            Check.same("get, STATE " + state, Check.answer(() -> hall.get(job)), due[state]);
+        }
     }
 
     private static void outcomes() {
         Check.same("VALUE", outcome(0, -5, 1), -5);
+        Check.same("a RESULT of 0", outcome(0, 0, 1), 0);
+        Check.same("a RESULT of -1", outcome(0, -1, 1), -1);
+        Check.same("the least RESULT", outcome(0, Integer.MIN_VALUE, 1), Integer.MIN_VALUE);
         Check.same("DIVIDE", outcome(1, 7, -2), -3);
         Check.same("DIVIDE by 0", outcome(1, 7, 0), "ArithmeticException");
         Check.same("PICK 4", outcome(2, 4, 11), 11);

@@ -2,17 +2,26 @@
 public final class Promise09TickTest {
     public static void main(String[] args) {
         wrongNumbers();
+        byHasEnds();
         onlyEntriesUpToTheGoal();
+        justGIsNotAboveIt();
         theLeastTimeThenTheFirstPut();
         entriesPutAnewStandBehind();
         timeIsThatOfTheEntry();
         atMostTwentyTimes();
+        nineteenTwentyAndTwentyOne();
+        twentyOfSeveralEntries();
+        timeDoesNotGoBack();
         jobsAreMadeNewAgain();
         otherJobsAreLeftAlone();
         firingAtOnce();
         aClosingPool();
         idleWorkersGo();
         idleWorkersGoInOrder();
+        idleForJustTwenty();
+        noFewerThanCore();
+        busyWorkersStay();
+        whoIsTakenByAFiringIsNotIdle();
         Check.end();
     }
 
@@ -29,6 +38,81 @@ public final class Promise09TickTest {
         Check.same("tick(100.0)", hall.tick(100.0), 0);
         hall.clock(0, 0.0, 0.0);
         Check.same("TIME", hall.due(), 100.0);
+    }
+
+    /** "by 0.0 .. 100.0; let G be TIME plus that .. TIME is G." */
+    private static void byHasEnds() {
+        WorkHall hall = Check.full(1);
+        double time = 0.0;
+        for (double by : new double[] {0.0, -0.0, Double.MIN_VALUE, 100.0, 100.0, Math.nextDown(100.0)}) {
+            Check.same("tick(" + by + ")", hall.tick(by), 0);
+            time += by;
+            hall.clock(0, 0.0, 0.0);
+            Check.same("TIME", hall.due(), time);
+            Check.same("an ENTRY of now", hall.tick(0.0), 1);
+        }
+        Check.refused("below", Check.ARGUMENT, () -> hall.tick(-Double.MIN_VALUE));
+        Check.refused("above", Check.ARGUMENT, () -> hall.tick(Math.nextUp(100.0)));
+        hall.clock(0, 0.0, 0.0);
+        Check.same("TIME stays", hall.due(), time);
+    }
+
+    /** "As long as the first ENTRY's time is not above G" */
+    private static void justGIsNotAboveIt() {
+        Check.same("just G", fired(8.0, 8.0), 1);
+        Check.same("the next number above G", fired(Math.nextUp(8.0), 8.0), 0);
+        Check.same("the next number below G", fired(Math.nextDown(8.0), 8.0), 1);
+        Check.same("0.0 and 0.0", fired(0.0, 0.0), 1);
+        Check.same("100.0 and 100.0", fired(100.0, 100.0), 1);
+        Check.same("the least delay and 0.0", fired(Double.MIN_VALUE, 0.0), 0);
+    }
+
+    private static int fired(double delay, double by) {
+        WorkHall hall = Check.full(1);
+        hall.clock(0, delay, 0.0);
+        int fired = hall.tick(by);
+        Check.same("ENTRIES left", hall.count(4), 1 - fired);
+        return fired;
+    }
+
+    /** "but at most 20 times": one ENTRY that is due 19, 20 and 21 times. */
+    private static void nineteenTwentyAndTwentyOne() {
+        for (int times = 19; times <= 21; times++) {
+            WorkHall hall = Check.full(1);
+            hall.clock(0, 1.0, 1.0);
+            Check.same(times + " are due", hall.tick(times), Math.min(times, 20));
+            Check.same(times + " are due, the next", hall.due(), Math.min(times, 20) + 1.0);
+            Check.same(times + " are due, what is left", hall.tick(0.0), times == 21 ? 1 : 0);
+        }
+    }
+
+    private static void twentyOfSeveralEntries() {
+        WorkHall hall = Check.full(1);
+        for (int i = 0; i < 10; i++) {
+            hall.clock(0, 1.0 + i, 10.0);
+        }
+        Check.same("25 are due", hall.tick(25.0), 20);
+        Check.same("the 21st is the first", hall.due(), 21.0);
+        Check.same("the other five", hall.tick(0.0), 5);
+        Check.same("then", hall.due(), 26.0);
+        Check.same("all are there", hall.count(4), 10);
+    }
+
+    /** "TIME is that time if it is above TIME": one that was left behind is not. */
+    private static void timeDoesNotGoBack() {
+        WorkHall hall = new WorkHall(1, 1, 1, 0);
+        int again = Check.value(hall, 1);
+        hall.submit(again);
+        hall.clock(again, 0.0, 1.0);
+        Check.same("twenty times, with its JOB RUNNING", hall.tick(50.0), 20);
+        Check.same("the ENTRY is behind TIME", hall.due(), 20.0);
+        hall.step(1);
+        hall.submit(Check.value(hall, 1));
+        Check.same("it FIRES at 50.0", hall.tick(0.0), 20);
+        Check.same("its JOB is QUEUED", Check.state(hall, again), 1);
+        hall.tick(2.0);
+        hall.step(1);
+        Check.same("it is taken at 52.0", hall.delay(), 2.0);
     }
 
     private static void onlyEntriesUpToTheGoal() {
@@ -222,5 +306,75 @@ public final class Promise09TickTest {
         hall.cancel(0, true);
         hall.tick(20.0);
         Check.same("the first of two goes", hall.count(1), 1);
+    }
+
+    /** "WORKERS that were IDLE for 20.0 or more": of two, CORE 1, one would go. */
+    private static void idleForJustTwenty() {
+        Check.same("20.0", workersAfter(1, 20.0), 1);
+        Check.same("the next number below 20.0", workersAfter(1, Math.nextDown(20.0)), 2);
+        Check.same("the next number above 20.0", workersAfter(1, Math.nextUp(20.0)), 1);
+        Check.same("0.0", workersAfter(1, 0.0), 2);
+        Check.same("100.0", workersAfter(1, 100.0), 1);
+    }
+
+    /** "as long as there are more than CORE" */
+    private static void noFewerThanCore() {
+        Check.same("CORE 0", workersAfter(0, 20.0), 0);
+        Check.same("CORE 1", workersAfter(1, 20.0), 1);
+        Check.same("CORE 2", workersAfter(2, 20.0), 2);
+        Check.same("CORE 3", workersAfter(3, 100.0), 2);
+        WorkHall hall = new WorkHall(3, 5, 0, 0);
+        for (int i = 0; i < 5; i++) {
+            hall.submit(Check.value(hall, 1));
+        }
+        hall.step(1);
+        hall.tick(20.0);
+        Check.same("CORE 3 of five", hall.count(1), 3);
+        hall.tick(100.0);
+        Check.same("CORE 3 of three", hall.count(1), 3);
+    }
+
+    /** How many of two WORKERS that are IDLE are there so much later. */
+    private static int workersAfter(int core, double by) {
+        WorkHall hall = new WorkHall(core, 5, 0, 0);
+        hall.submit(Check.value(hall, 1));
+        hall.submit(Check.value(hall, 1));
+        hall.step(1);
+        hall.tick(by);
+        return hall.count(1);
+    }
+
+    /** "in order": BUSY ones count for CORE, and are passed over. */
+    private static void busyWorkersStay() {
+        WorkHall hall = new WorkHall(2, 5, 0, 0);
+        for (int cost : new int[] {5, 1, 4, 1, 1}) {
+            hall.submit(Check.value(hall, cost));
+        }
+        hall.step(1);
+        hall.tick(20.0);
+        Check.same("WORKERS", hall.count(1), 2);
+        Check.same("the first BUSY one", hall.worker(0), 4);
+        Check.same("the second BUSY one", hall.worker(1), 3);
+        WorkHall some = new WorkHall(3, 5, 0, 0);
+        for (int cost : new int[] {5, 1, 4, 1, 1}) {
+            some.submit(Check.value(some, cost));
+        }
+        some.step(1);
+        some.tick(20.0);
+        Check.same("the first two IDLE ones went", some.count(1), 3);
+        Check.same("BUSY", some.worker(0), 4);
+        Check.same("BUSY", some.worker(1), 3);
+        Check.same("IDLE", some.worker(2), 0);
+    }
+
+    /** "Then": it is asked after all have FIRED. */
+    private static void whoIsTakenByAFiringIsNotIdle() {
+        WorkHall hall = new WorkHall(0, 1, 0, 0);
+        hall.submit(Check.value(hall, 1));
+        hall.step(1);
+        hall.clock(0, 50.0, 0.0);
+        Check.same("one FIRES", hall.tick(50.0), 1);
+        Check.same("the WORKER that was IDLE for 50.0 has it", hall.about(0, 3), 0);
+        Check.same("it is there", hall.count(1), 1);
     }
 }

@@ -2,6 +2,7 @@
 public final class Promise10ShutTest {
     public static void main(String[] args) {
         anEmptyPoolEndsAtOnce();
+        emptyAndFullQueues();
         softly();
         now();
         onlyOnce();
@@ -22,6 +23,38 @@ public final class Promise10ShutTest {
             Check.refused("worker(0)", Check.NO_ELEMENT, () -> hall.worker(0));
             Check.same("results stay", hall.get(0), 7);
         }
+    }
+
+    /** "now: all JOBS of the QUEUE and all that are RUNNING are CANCELLED .. Answers how many were CANCELLED." */
+    private static void emptyAndFullQueues() {
+        for (int room = 0; room <= 4; room++) {
+            for (int most = 1; most <= 5; most++) {
+                WorkHall now = filled(most, room);
+                Check.same("now, " + room + " in the QUEUE, " + most + " BUSY", now.shut(true), most + room);
+                Check.same("now, ENDED", now.count(5), 2);
+                Check.same("now, WORKERS", now.count(1), 0);
+                WorkHall later = filled(most, room);
+                Check.same("not now, " + room + " in the QUEUE, " + most + " BUSY", later.shut(false), 0);
+                Check.same("not now, CLOSING", later.count(5), 1);
+                Check.same("not now, the QUEUE", later.count(3), room);
+                Check.same("not now, BUSY", later.count(2), most);
+                for (int job = 0; job < most + room; job++) {
+                    Check.same("now, JOB " + job, Check.state(now, job), 5);
+                    Check.same("not now, JOB " + job, Check.state(later, job) == 5, false);
+                }
+            }
+        }
+    }
+
+    /** Each WORKER is BUSY, and the QUEUE is full. */
+    private static WorkHall filled(int most, int room) {
+        WorkHall hall = new WorkHall(0, most, room, 0);
+        for (int i = 0; i < most + room; i++) {
+            hall.submit(Check.value(hall, 5));
+        }
+        Check.same("BUSY", hall.count(2), most);
+        Check.same("in the QUEUE", hall.count(3), room);
+        return hall;
     }
 
     private static void softly() {
@@ -57,6 +90,7 @@ public final class Promise10ShutTest {
         Check.same("step", hall.step(10), 0);
     }
 
+    /** "It is not OPEN: IllegalStateException." */
     private static void onlyOnce() {
         WorkHall hall = Check.full(0);
         hall.shut(false);

@@ -2,10 +2,14 @@
 public final class Promise11AboutTest {
     public static void main(String[] args) {
         wrongArguments();
+        whatHasEnds();
         everyState();
         kindsAndNexts();
         places();
+        theLastPlaces();
+        noPlaceInTheOtherStates();
         whatWasThrown();
+        zeroUnlessFailed();
         Check.end();
     }
 
@@ -18,6 +22,54 @@ public final class Promise11AboutTest {
         Check.refused("about(0, 5)", Check.ARGUMENT, () -> hall.about(0, 5));
         Check.refused("about(1, 0)", Check.NO_ELEMENT, () -> hall.about(1, 0));
         Check.refused("about(1, 5)", Check.ARGUMENT, () -> hall.about(1, 5));
+    }
+
+    /** "what 0 .. 4." */
+    private static void whatHasEnds() {
+        WorkHall hall = new WorkHall(1, 1, 1, 0);
+        Check.value(hall, 1);
+        int[] due = {0, 0, -1, -1, 0};
+        for (int what = 0; what <= 4; what++) {
+            Check.same("about(0, " + what + ")", hall.about(0, what), due[what]);
+        }
+        for (int what : new int[] {Integer.MIN_VALUE, -1, 5, Integer.MAX_VALUE}) {
+            Check.refused("about(0, " + what + ")", Check.ARGUMENT, () -> hall.about(0, what));
+        }
+    }
+
+    /** "3 its place in the QUEUE from 0, the WORKER's place that is BUSY with it" */
+    private static void theLastPlaces() {
+        WorkHall hall = new WorkHall(0, 5, 4, 0);
+        for (int i = 0; i < 9; i++) {
+            hall.submit(Check.value(hall, 5));
+        }
+        for (int job = 0; job < 4; job++) {
+            Check.same("place in the QUEUE of " + job, hall.about(job, 3), job);
+        }
+        for (int job = 4; job < 9; job++) {
+            Check.same("the WORKER's place of " + job, hall.about(job, 3), job - 4);
+        }
+    }
+
+    /** "else -1" */
+    private static void noPlaceInTheOtherStates() {
+        WorkHall hall = Check.withEveryState(0, 7, 0);
+        int[] due = {-1, 0, 0, -1, -1, -1, -1, 1};
+        for (int job = 0; job <= 7; job++) {
+            Check.same("place of JOB " + job, hall.about(job, 3), due[job]);
+        }
+    }
+
+    /** "4 what it threw if it is FAILED, else 0": also if it was FAILED before. */
+    private static void zeroUnlessFailed() {
+        WorkHall hall = Check.withEveryState(0, 7, 0);
+        for (int job = 0; job <= 7; job++) {
+            Check.same("what JOB " + job + " threw", hall.about(job, 4), job == 4 ? 1 : 0);
+        }
+        hall.clock(4, 0.0, 0.0);
+        hall.tick(0.0);
+        Check.same("REFUSED after it was FAILED", Check.state(hall, 4), 6);
+        Check.same("what it threw", hall.about(4, 4), 0);
     }
 
     private static void everyState() {

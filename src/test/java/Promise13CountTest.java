@@ -2,16 +2,35 @@
 public final class Promise13CountTest {
     public static void main(String[] args) {
         wrongArguments();
+        theGreatestCounts();
         everyCount();
         theMostWorkersAtATime();
         Check.end();
     }
 
+    /** "what 0 .. 7." */
     private static void wrongArguments() {
         WorkHall hall = new WorkHall(1, 1, 1, 0);
         for (int what : new int[] {-1, 8, Integer.MIN_VALUE, Integer.MAX_VALUE}) {
             Check.refused("count(" + what + ")", Check.ARGUMENT, () -> hall.count(what));
         }
+    }
+
+    /** What there can be at most: 24 JOBS, 5 WORKERS, 4 in the QUEUE, 10 ENTRIES. */
+    private static void theGreatestCounts() {
+        WorkHall hall = new WorkHall(3, 5, 4, 3);
+        due(hall, "at 0", 0, 0, 0, 0, 0, 0, 0, 0);
+        for (int i = 0; i < 24; i++) {
+            hall.submit(Check.value(hall, 5));
+        }
+        for (int i = 0; i < 10; i++) {
+            hall.clock(23, 1000.0, 0.0);
+        }
+        due(hall, "when all is full", 24, 5, 5, 4, 10, 0, 15, 5);
+        hall.step(10);
+        due(hall, "when all is done", 24, 5, 0, 0, 10, 0, 24, 5);
+        hall.shut(false);
+        due(hall, "when all is over", 24, 0, 0, 0, 0, 2, 24, 5);
     }
 
     private static void everyCount() {
@@ -38,6 +57,7 @@ public final class Promise13CountTest {
         }
     }
 
+    /** "7 the most WORKERS that were there at a time": it never goes down, and counts no WORKER twice. */
     private static void theMostWorkersAtATime() {
         WorkHall hall = new WorkHall(0, 3, 0, 0);
         hall.submit(Check.crash(hall, 1));

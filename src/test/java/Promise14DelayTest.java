@@ -2,11 +2,40 @@
 public final class Promise14DelayTest {
     public static void main(String[] args) {
         neverTaken();
+        neverInTheQueue();
+        aDelayOfZeroIsAddedToo();
         theMean();
         throughCrashAndCancel();
         Check.end();
     }
 
+    /** JOBS that a WORKER is BUSY with at once, or that are PERFORMED at once, add nothing. */
+    private static void neverInTheQueue() {
+        WorkHall hall = new WorkHall(1, 2, 0, 3);
+        for (int i = 0; i < 3; i++) {
+            hall.submit(Check.value(hall, 1));
+        }
+        hall.tick(5.0);
+        hall.step(5);
+        hall.submit(Check.value(hall, 1));
+        hall.step(5);
+        Check.same("all have ENDED", hall.count(6), 4);
+        Check.refused("delay", Check.ARITHMETIC, () -> hall.delay());
+    }
+
+    private static void aDelayOfZeroIsAddedToo() {
+        WorkHall hall = new WorkHall(1, 1, 2, 0);
+        hall.submit(Check.value(hall, 1));
+        hall.submit(Check.value(hall, 1));
+        hall.step(1);
+        Check.same("one of 0.0", hall.delay(), 0.0);
+        hall.submit(Check.value(hall, 1));
+        hall.tick(3.0);
+        hall.step(1);
+        Check.same("and one of 3.0", hall.delay(), 1.5);
+    }
+
+    /** "never: ArithmeticException": what is CANCELLED, dropped or shut off was not taken. */
     private static void neverTaken() {
         WorkHall hall = new WorkHall(1, 1, 2, 2);
         Check.refused("of a new pool", Check.ARITHMETIC, () -> hall.delay());
