@@ -369,12 +369,14 @@ public final class Promise09TickTest {
 
     /** "Then": it is asked after all have FIRED. */
     private static void whoIsTakenByAFiringIsNotIdle() {
-        WorkHall hall = new WorkHall(0, 1, 0, 0);
+        WorkHall hall = new WorkHall(0, 1, 1, 0);
         hall.submit(Check.value(hall, 1));
-        hall.step(1);
+        hall.submit(Check.value(hall, 1));
+        hall.step(2);
+        Check.same("the WORKER is IDLE", hall.worker(0), 0);
         hall.clock(0, 50.0, 0.0);
         Check.same("one FIRES", hall.tick(50.0), 1);
-        Check.same("the WORKER that was IDLE for 50.0 has it", hall.about(0, 3), 0);
+        Check.same("the WORKER that was IDLE for 50.0 has it", Check.state(hall, 0), 2);
         Check.same("it is there", hall.count(1), 1);
     }
 }

@@ -3,8 +3,8 @@ import java.util.Random;
 /** Runs of calls with seeded numbers, each answer compared with that of PlainHall, and all that is seen at the end. */
 public final class RandomRunsTest {
     private static final int RUNS = 2000;
-    /** Looks makes up to 160 calls, and the document promises 512 in all. */
-    private static final int CALLS = 512 - 160;
+    /** Looks makes up to 162 calls, and the document promises 512 in all. */
+    private static final int CALLS = 512 - 162;
 
     private final Random random;
     private final WorkHall hall;

@@ -156,10 +156,11 @@ public final class TermsKindsTest {
         }
     }
 
-    /** "or JOB a is not NEW: it throws 4": each STATE, and none of them changes. */
+    /** "or JOB a is not NEW: it throws 4": each STATE, and none of them changes, though the QUEUE has room. */
     private static void forkOfAJobThatIsNotNewThrowsFour() {
         for (int job = 2; job <= 6; job++) {
             WorkHall hall = Check.withEveryState(4, job, 0);
+            hall.cancel(1, false);
             hall.step(2);
             Check.same("FORK of JOB " + job, told(hall, 7), "threw 4");
             Check.same("JOB " + job + " then", Check.state(hall, job), job);

@@ -44,10 +44,11 @@ public final class TermsStepTest {
         }
     }
 
-    /** "a NEXT that is NEW": none of the other STATES changes. */
+    /** "a NEXT that is NEW": none of the other STATES changes, though the QUEUE has room. */
     private static void aNextThatIsNotNewIsLeft() {
         for (int next = 2; next <= 6; next++) {
             WorkHall hall = Check.withEveryState(0, 7, 0);
+            hall.cancel(1, false);
             hall.then(7, next);
             Check.same("it ENDS", hall.step(2), 1);
             Check.same("NEXT " + next, Check.state(hall, next), next);
