@@ -16,6 +16,7 @@ public final class TermsSubmitTest {
         policyTwoWithAnEmptyQueueCancelsTheJob();
         policyThreePerformsItAtOnce();
         policyThreeEndsIt();
+        theLongestChainsAtOnce();
         busyWithItIsRunningWithItsCost();
         Check.end();
     }
@@ -237,6 +238,42 @@ public final class TermsSubmitTest {
         Check.same("two have ENDED", hall.count(6), 2);
         Check.same("the NEXT of the DONE one", Check.state(hall, failing), 4);
         Check.same("the NEXT of the FAILED one", Check.state(hall, last), 0);
+    }
+
+    /** All 24 JOBS, each SUBMITTED while the one before ENDS or is PERFORMED: as NEXT, by FORK, and by turns. */
+    private static void theLongestChainsAtOnce() {
+        for (int forks = 0; forks <= 2; forks++) {
+            WorkHall fromStep = chain(new WorkHall(1, 1, 0, 3), forks);
+            Check.same("a WORKER begins with it", fromStep.submit(0), 2);
+            Check.same("all END in one STEP", fromStep.step(1), 24);
+            allAreDone(fromStep, 0);
+            WorkHall fromSubmit = chain(Check.full(3), forks);
+            Check.same("it is PERFORMED at once", fromSubmit.submit(1), 3);
+            Check.same("all others END at once", fromSubmit.count(6), 23);
+            allAreDone(fromSubmit, 1);
+        }
+    }
+
+    /** Fills the hall with JOBS up to the last; each has the one behind it as NEXT, or is a FORK of it. */
+    private static WorkHall chain(WorkHall hall, int forks) {
+        int first = hall.count(0);
+        for (int job = first; job < 24; job++) {
+            boolean forking = job < 23 && (forks == 1 || forks == 2 && job % 2 == 0);
+            hall.job(forking ? 4 : 0, forking ? job + 1 : 7, 0, 1);
+        }
+        for (int job = first; job < 23; job++) {
+            if (hall.about(job, 1) == 0) {
+                hall.then(job, job + 1);
+            }
+        }
+        return hall;
+    }
+
+    private static void allAreDone(WorkHall hall, int first) {
+        for (int job = first; job < 24; job++) {
+            Check.same("STATE of JOB " + job, Check.state(hall, job), 3);
+            Check.same("RESULT of JOB " + job, hall.get(job), hall.about(job, 1) == 4 ? 3 : 7);
+        }
     }
 
     /** "BUSY with it: it is RUNNING, its COST is left." */
