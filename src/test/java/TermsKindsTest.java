@@ -19,6 +19,9 @@ public final class TermsKindsTest {
         forkRefusedByAPoolThatIsNotOpenThrowsFour();
         forkOfAJobThatIsNotNewThrowsFour();
         forkOfNoJobThrowsFour();
+        forkOfOneThatIsPerformedAtOnceThrowsFour();
+        forksInARingAtOnceEnd();
+        aNextThatIsPerformedAtOnceIsNotNew();
         crashThrowsFive();
         Check.end();
     }
@@ -180,6 +183,62 @@ public final class TermsKindsTest {
             hall.step(2);
             Check.same("FORK of " + job, told(hall, 7), "threw 4");
         }
+    }
+
+    /** "JOB a is not NEW: it throws 4": one that is PERFORMED at once is not, whatever SUBMITTED it. */
+    private static void forkOfOneThatIsPerformedAtOnceThrowsFour() {
+        WorkHall bySubmit = Check.full(3);
+        Check.same("submit", bySubmit.submit(Check.fork(bySubmit, 1, 1)), 4);
+        itselfThrewFour("by submit", bySubmit, 1);
+        WorkHall byClock = Check.full(3);
+        byClock.clock(Check.fork(byClock, 1, 1), 0.0, 0.0);
+        byClock.tick(0.0);
+        itselfThrewFour("by the CLOCK", byClock, 1);
+        WorkHall byNext = Check.full(3);
+        byNext.then(0, Check.fork(byNext, 1, 1));
+        byNext.step(5);
+        itselfThrewFour("as a NEXT", byNext, 2);
+        WorkHall byFork = Check.full(3);
+        byFork.submit(Check.fork(byFork, 2, 1));
+        Check.same("not made yet", byFork.about(1, 4), 4);
+        int inner = Check.fork(byFork, 2, 1);
+        byFork.clock(1, 0.0, 0.0);
+        byFork.tick(0.0);
+        Check.same("the outer FORK has the STATE of the inner", told(byFork, 1), "RESULT 4");
+        Check.same("by FORK", told(byFork, inner), "threw 4");
+    }
+
+    private static void itselfThrewFour(String how, WorkHall hall, int ended) {
+        Check.same("FORK of itself, SUBMITTED " + how, told(hall, 1), "threw 4");
+        Check.same("it ENDED once", hall.count(6), ended);
+    }
+
+    /** Each FORKS the one behind it, and the last the first, which is not NEW. */
+    private static void forksInARingAtOnceEnd() {
+        for (int last = 1; last <= 23; last++) {
+            WorkHall hall = Check.full(3);
+            for (int job = 1; job <= last; job++) {
+                Check.fork(hall, job == last ? 1 : job + 1, 1);
+            }
+            Check.same("a ring of " + last, hall.submit(1), last == 1 ? 4 : 3);
+            Check.same("each ENDED once", hall.count(6), last);
+            for (int job = 1; job <= last; job++) {
+                String due = job == last ? "threw 4" : job == last - 1 ? "RESULT 4" : "RESULT 3";
+                Check.same("JOB " + job + " of " + last, told(hall, job), due);
+            }
+        }
+    }
+
+    /** "has a NEXT that is NEW": the FORK that waits for it is not, so it is not SUBMITTED again. */
+    private static void aNextThatIsPerformedAtOnceIsNotNew() {
+        WorkHall hall = Check.full(3);
+        int fork = Check.fork(hall, 2, 1);
+        int value = Check.value(hall, 1);
+        hall.then(value, fork);
+        Check.same("submit", hall.submit(fork), 3);
+        Check.same("the FORK", told(hall, fork), "RESULT 3");
+        Check.same("the VALUE", told(hall, value), "RESULT 7");
+        Check.same("each ENDED once", hall.count(6), 2);
     }
 
     /** "CRASH: it throws 5." */
